@@ -85,5 +85,12 @@ public final class BestRowTest {
         Due.is(x.bestRow(10, 50, 1), 0);
         x.setNumber(6, 50);
         Due.is(x.bestRow(10, 50, 1), 26);
+        x.begin(60);
+        x.setLevel(59, -40);
+        Due.is(x.bestRow(20, 0, 0), 40);
+        Due.is(x.bestRow(20, 0, 1), 0);
+        Due.is(x.bestRow(20, -9999, 1), 36);
+        x.begin(10);
+        Due.is(x.bestRow(10, -9999, 1), 0);
     }
 }

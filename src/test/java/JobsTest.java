@@ -228,6 +228,7 @@ public final class JobsTest {
         Due.is(x.lifts(0, 10000), INVALID);
         x.setLevel(1, -9999);
         Due.is(x.lifts(0, 0), 2);
+        Due.is(x.lifts(0, 1), 3);
         Due.is(x.lifts(0, -9999), 2);
         Due.is(x.lifts(0, 4), 3);
         Due.is(x.lifts(0, 5), 0);

@@ -188,5 +188,12 @@ public final class LookingTest {
         x.begin(10);
         Due.is(x.rail(10, 0), INVALID);
         Due.is(x.rail(9, 1), 0);
+        x.setLevel(0, 100);
+        Due.is(x.rail(9, 0), 64);
+        Due.is(x.rail(9, 1), 64);
+        x.begin(60);
+        x.setLevel(59, 300);
+        Due.is(x.rail(0, 0), 64);
+        Due.is(x.rail(0, 1), 64);
     }
 }

@@ -14,6 +14,7 @@ public final class TextTest {
         errorsOfNumbers();
         errorsOfTheEnd();
         longestText();
+        clearedText();
         Due.end();
     }
 
@@ -182,5 +183,15 @@ public final class TextTest {
         Due.is(x.sleeper(9, 0), 5);
         text.setCharAt(99, ' ');
         Due.is(Due.loaded(x, text.toString()), ERROR - 100);
+        Due.is(answerTo(" ".repeat(98) + "b1"), ERROR - 100);
+    }
+
+    /** What stood behind the end of the text before plays no part. */
+    private static void clearedText() {
+        BallastTrack x = new BallastTrack();
+        Due.is(Due.loaded(x, "b12=34;"), 1);
+        Due.is(Due.loaded(x, "b1"), ERROR - 2);
+        Due.is(Due.loaded(x, "b12=3"), ERROR - 5);
+        Due.is(Due.loaded(x, "b12"), ERROR - 3);
     }
 }

@@ -8,6 +8,7 @@ public final class TrainsTest {
         settlementIsRoundedDown();
         levelsHaveAFloor();
         greatestSettlement();
+        greatestSettlementsOfSlowTrains();
         hangingSleepersFoul();
         ordersSlowAndCost();
         trainsStopWhenClosed();
@@ -80,6 +81,13 @@ public final class TrainsTest {
         Due.is(x.account(0), 40);
         Due.is(x.trains(133, 3, 1), 1);
         Due.is(x.account(0), 80);
+        x.begin(12);
+        x.setNumber(0, 1);
+        Due.is(Due.loaded(x, "b4-8=-99;f3=63;"), 2);
+        Due.is(x.sleeper(3, 5), 7);
+        // 191 * 29 * 7 * 163 * 100 is 100 less than 158 times 4000000.
+        Due.is(x.trains(191, 29, 1), 1);
+        Due.is(x.sleeper(3, 8), 157);
     }
 
     private static void levelsHaveAFloor() {
@@ -105,6 +113,24 @@ public final class TrainsTest {
         Due.is(x.trains(200, 30, 1), 1);
         Due.is(x.sleeper(0, 8), 3600);
         Due.is(x.sleeper(0, 0), 6399);
+    }
+
+    /** One sleeper carries the whole track, with a defect of 40 at it. */
+    private static void greatestSettlementsOfSlowTrains() {
+        int[] secondLimits = {40, 39};
+        int[] settlements = {1260, 720};
+        for (int i = 0; i < 2; i++) {
+            BallastTrack x = new BallastTrack();
+            x.begin(60);
+            x.setNumber(0, 20);
+            x.setNumber(2, 1);
+            x.setNumber(4, secondLimits[i]);
+            x.setLevel(30, 9999);
+            Due.is(x.count(11), i + 1);
+            Due.is(x.trains(200, 30, 1), 1);
+            Due.is(x.sleeper(30, 8), settlements[i]);
+            Due.is(x.account(0), settlements[i]);
+        }
     }
 
     private static void hangingSleepersFoul() {
