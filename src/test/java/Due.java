@@ -1,25 +1,55 @@
+import java.util.function.IntUnaryOperator;
+
 /** Compares answers with the ones that are due, and tells where one is not. */
 final class Due {
     private static int wrong = 0;
     private static int compared = 0;
+    private static String sentence = "";
 
     private Due() {
+    }
+
+    /** Names the sentence of the document that the next answers are about; section 0 is the Terms. */
+    static void sentence(int section, String words) {
+        sentence = "";
+        isTrue("the document says, in " + section + ", \"" + words + "\"", Document.says(section, words));
+        sentence = " (" + section + ": \"" + words + "\")";
     }
 
     static void is(long got, long want) {
         compared++;
         if (got != want) {
-            wrong++;
-            System.out.println(placeOfCall() + " answered " + got + ", due is " + want);
+            tell("answered " + got + ", due is " + want);
+        }
+    }
+
+    /** For what the document leaves open between two answers. */
+    static void isEither(long got, long one, long other) {
+        compared++;
+        if (got != one && got != other) {
+            tell("answered " + got + ", due is " + one + " or " + other);
         }
     }
 
     static void isTrue(String what, boolean holds) {
         compared++;
         if (!holds) {
-            wrong++;
-            System.out.println(placeOfCall() + " does not hold: " + what);
+            tell("does not hold: " + what);
         }
+    }
+
+    /** All values just outside of a range, and far from it, are refused. */
+    static void refusesOutside(int least, int greatest, IntUnaryOperator call) {
+        int[] values = {least - 1, greatest + 1, least - 1000000, greatest + 1000000,
+            Integer.MIN_VALUE, Integer.MAX_VALUE};
+        for (int value : values) {
+            is(call.applyAsInt(value), BallastTrack.INVALID_ARGUMENT);
+        }
+    }
+
+    private static void tell(String what) {
+        wrong++;
+        System.out.println(placeOfCall() + " " + what + sentence);
     }
 
     /** Appends all characters of a text. */

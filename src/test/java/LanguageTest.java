@@ -6,10 +6,13 @@ import java.lang.reflect.Modifier;
 import java.nio.charset.StandardCharsets;
 import java.nio.file.Files;
 import java.nio.file.Path;
+import java.util.ArrayDeque;
 import java.util.Arrays;
+import java.util.Deque;
 import java.util.List;
 import java.util.Set;
 import java.util.TreeSet;
+import java.util.regex.Pattern;
 
 /** The public face, the constants, and the rules of LANGUAGE.md that can be told from the source. */
 public final class LanguageTest {
@@ -21,9 +24,14 @@ public final class LanguageTest {
         "account 1", "rail 2", "why 1", "lifts 2", "trainsUntil 3", "bestRow 3", "minutesLeft 0");
 
     private static final List<String> FORBIDDEN = List.of(
-        "throw", "try", "catch", "synchronized", "assert", "package", "instanceof", "hashCode", "toString", "Exception",
-        "Random", "System.out", "System.in", "currentTimeMillis", "nanoTime", "Thread", "Object", "String", "Exact",
-        "->", "::", "@");
+        "throw", "try", "catch", "synchronized", "assert", "package", "equals\\(Object", "hashCode", "\\w+Exact",
+        "Random", "Scanner", "System\\.(?!arraycopy)\\w+", "Thread", "Object", "Exception", "Error",
+        "java\\.(?!util)\\w+", "LinkedList", "HashMap", "TreeMap", "Optional");
+
+    private static final List<String> IMPORTS = List.of("import java.util.Arrays;", "import java.util.ArrayList;",
+        "import java.util.Iterator;", "import java.util.List;");
+
+    private static final Pattern CLASS_HEAD = Pattern.compile("\\b(class|enum|record|interface)\\s+\\w+");
 
     public static void main(String[] args) throws IOException {
         constants();
@@ -79,47 +87,58 @@ public final class LanguageTest {
     private static void classesInside() {
         for (Class<?> inside : BallastTrack.class.getDeclaredClasses()) {
             Due.isTrue(inside + " is static", Modifier.isStatic(inside.getModifiers()));
-            Due.isTrue(inside + " is private", Modifier.isPrivate(inside.getModifiers()));
+            Due.isTrue(inside + " is private or package-visible",
+                !Modifier.isPublic(inside.getModifiers()) && !Modifier.isProtected(inside.getModifiers()));
             for (Method method : inside.getDeclaredMethods()) {
-                Due.isTrue(method + " has a name of its own",
-                    FACE.stream().noneMatch(name -> name.startsWith(method.getName() + " ")));
+                Due.isTrue(method + " has a name of its own", !Modifier.isPrivate(method.getModifiers())
+                    || FACE.stream().noneMatch(name -> name.startsWith(method.getName() + " ")));
                 Due.isTrue(method + " takes at most seven", method.getParameterCount() <= 7);
             }
         }
         Due.isTrue("at most twelve classes", BallastTrack.class.getDeclaredClasses().length < 12);
     }
 
-    private static void source() throws IOException {
+    /** The source without comments, texts and signs. */
+    private static String code() throws IOException {
         String text = Files.readString(SOURCE, StandardCharsets.US_ASCII);
-        String code = text.replaceAll("(?s)/\\*.*?\\*/", "").replaceAll("//[^\n]*", "");
-        for (String word : FORBIDDEN) {
-            boolean isWord = Character.isLetter(word.charAt(0));
-            String sought = isWord ? "(?s).*\\b" + word.replace(".", "\\.") + "\\b.*" : "(?s).*" + word + ".*";
-            Due.isTrue("no " + word, !code.matches(sought));
-        }
-        for (String line : code.split("\n")) {
-            Due.isTrue(line, !line.startsWith("import") || line.equals("import java.util.Arrays;"));
-        }
-        methodsStayShort(code.split("\n"));
-        Due.isTrue("nothing is made outside of constructors",
-            code.lines().filter(line -> line.contains("new ")).allMatch(
-                line -> line.contains(" final ") || line.matches("\\s+(images\\[image\\]|rows\\[row\\]) = new State\\(\\);")));
+        return text.replaceAll("\"(?:[^\"\\\\]|\\\\.)*\"|'(?:[^'\\\\]|\\\\.)*'|(?s:/\\*.*?\\*/)|//[^\n]*", " 0 ");
     }
 
-    private static void methodsStayShort(String[] lines) {
-        int methods = 0;
-        for (int start = 0; start < lines.length; start++) {
-            if (!lines[start].matches("( {4}| {8})(?!if |for |while |switch )\\w.*\\) \\{")) {
-                continue;
-            }
-            String close = lines[start].replaceAll("\\S.*", "") + "}";
-            int end = start;
-            while (end < lines.length && !lines[end].equals(close)) {
-                end++;
-            }
-            methods++;
-            Due.isTrue(lines[start] + " is short", end - start < 60);
+    private static void source() throws IOException {
+        String code = code();
+        for (String word : FORBIDDEN) {
+            Due.isTrue("no " + word, !Pattern.compile("\\b" + word + "\\b").matcher(code).find());
         }
-        Due.isTrue("the methods are found", methods > FACE.size());
+        Due.isTrue("no method reference", !code.contains("::"));
+        Due.isTrue("no lambda", !Pattern.compile("(?<!case\\s[^;{}]{0,80}|default\\s?)->").matcher(code).find());
+        for (String line : code.split("\n")) {
+            Due.isTrue(line, !line.startsWith("import") || IMPORTS.contains(line.strip()));
+        }
+        methodsStayShort(code);
+    }
+
+    /** A block is a method's if its head ends with a parenthesis and the block around it is a class's. */
+    private static void methodsStayShort(String code) {
+        Deque<String> heads = new ArrayDeque<>();
+        Deque<Integer> starts = new ArrayDeque<>();
+        int line = 1;
+        int head = 0;
+        for (int i = 0; i < code.length(); i++) {
+            char sign = code.charAt(i);
+            if (sign == '\n') {
+                line++;
+            } else if (sign == '{') {
+                heads.push(code.substring(head, i).strip());
+                starts.push(line);
+            } else if (sign == '}') {
+                String closed = heads.pop();
+                int length = line - starts.pop();
+                boolean isMethod = closed.endsWith(")") && !heads.isEmpty() && CLASS_HEAD.matcher(heads.peek()).find();
+                Due.isTrue(closed + " is short", !isMethod || length <= 65);
+            }
+            if (sign == '{' || sign == '}' || sign == ';') {
+                head = i + 1;
+            }
+        }
     }
 }

@@ -197,6 +197,7 @@ final class Model {
 
     private Track now = new Track();
     private String text = "";
+    private long otherAnswer;
     private final Track[] images = new Track[2];
     private final ArrayDeque<Track> saved = new ArrayDeque<>();
 
@@ -281,12 +282,19 @@ final class Model {
         Reading reading = new Reading(text, now.copy());
         int items = reading.read();
         if (reading.error >= 0) {
+            otherAnswer = -200000 - Math.max(reading.error, reading.digitTooMany);
             return -200000 - reading.error;
         }
+        otherAnswer = items;
         save();
         now = reading.track;
         text = "";
         return items;
+    }
+
+    /** The document doesn't tell which of two faults of one number the last load() answers. */
+    long otherAnswer() {
+        return otherAnswer;
     }
 
     /** Reads sign by sign; where tells what stood ahead of the sign. */
@@ -296,6 +304,8 @@ final class Model {
         final String text;
         final Track track;
         int error = -1;
+        // Where a digit too many stands behind a number that is wrong itself; else the error.
+        int digitTooMany = -1;
         Where where = Where.OUTSIDE;
         boolean levels;
         boolean negative;
@@ -313,8 +323,10 @@ final class Model {
             int items = 0;
             for (int i = 0; i < text.length() && error < 0; i++) {
                 char c = text.charAt(i);
-                if (inNumber() && !(Character.isDigit(c) && c < 128 && digits.length() < most())) {
+                boolean isDigit = c >= '0' && c <= '9';
+                if (inNumber() && !(isDigit && digits.length() < most())) {
                     endNumber();
+                    digitTooMany = error >= 0 && isDigit ? i : error;
                 }
                 if (error < 0 && c == ' ') {
                     continue;

@@ -25,7 +25,7 @@ public final class TrainsTest {
             Due.is(x.trains(row[0], row[1], row[2]), INVALID);
         }
         Due.is(x.count(13), 0);
-        closeTrack(x);
+        Tracks.close(x);
         Due.is(x.count(11), 3);
         for (int[] row : wrong) {
             Due.is(x.trains(row[0], row[1], row[2]), INVALID);
@@ -34,12 +34,6 @@ public final class TrainsTest {
         Due.is(x.trains(1, 1, 1), BallastTrack.ILLEGAL_STATE);
         Due.is(x.count(13), saved);
         Due.is(x.account(4), 0);
-    }
-
-    /** A peak of the greatest steepness, whose defect is 2 * 3 * 20. */
-    private static void closeTrack(BallastTrack x) {
-        x.setNumber(0, 20);
-        x.setLevel(20, 60);
     }
 
     private static void trainsSettle() {
@@ -170,18 +164,8 @@ public final class TrainsTest {
         }
     }
 
-    /** The fouled sleepers settle twice as fast; their dip grows until the track is closed. */
-    private static BallastTrack dipping() {
-        BallastTrack x = new BallastTrack();
-        x.begin(20);
-        x.setNumber(0, 20);
-        x.setNumber(1, 99);
-        Due.is(Due.loaded(x, "f8-12=100;"), 1);
-        return x;
-    }
-
     private static void trainsStopWhenClosed() {
-        BallastTrack x = dipping();
+        BallastTrack x = Tracks.dipping();
         Due.is(x.trains(200, 20, 1), 1);
         Due.is(x.sleeper(10, 6), -40);
         Due.is(x.count(11), 1);
@@ -223,7 +207,7 @@ public final class TrainsTest {
     }
 
     private static void trainsUntil() {
-        BallastTrack x = dipping();
+        BallastTrack x = Tracks.dipping();
         int saved = x.count(13);
         int[][] wrong = {{0, 1, 1}, {201, 1, 1}, {1, 0, 1}, {1, 31, 1}, {1, 1, 0}, {1, 1, 4}};
         for (int[] row : wrong) {
@@ -236,7 +220,8 @@ public final class TrainsTest {
         Due.is(x.sleeper(10, 0), 0);
         Due.is(x.account(4), 0);
         Due.is(x.count(13), saved);
-        closeTrack(x = new BallastTrack());
+        x = new BallastTrack();
+        Tracks.close(x);
         for (int order = 1; order <= 3; order++) {
             Due.is(x.trainsUntil(1, 1, order), 0);
         }
@@ -244,28 +229,11 @@ public final class TrainsTest {
         Due.is(x.trainsUntil(200, 30, 1), BallastTrack.NONE);
     }
 
-    /**
-     * Only sleeper 0 settles, by 1 a train: it is fouled by 2, and it and sleeper 5 have the loads of
-     * those between them. The defect at 5 grows by 1 a train from 1 - start, and 101 is order 1.
-     */
-    private static BallastTrack sinkingEnd(int start) {
-        BallastTrack x = new BallastTrack();
-        x.begin(20);
-        x.setNumber(0, 20);
-        x.setNumber(2, 5);
-        x.setNumber(5, 2000);
-        x.setNumber(4, 1999);
-        x.setNumber(3, 100);
-        x.setLevel(0, start);
-        Due.is(Due.loaded(x, "b1-4=-9999;b10=-1;f0=2;"), 3);
-        return x;
-    }
-
     private static void trainsUntilAgreesWithTrains() {
         int[] starts = {-100, -99, 0, 99, 100, 101};
         int[] due = {0, 1, 100, 199, 200, BallastTrack.NONE};
         for (int i = 0; i < starts.length; i++) {
-            BallastTrack x = sinkingEnd(starts[i]);
+            BallastTrack x = Tracks.sinkingEnd(starts[i]);
             Due.is(x.trainsUntil(66, 1, 1), due[i]);
             Due.is(x.trainsUntil(66, 1, 2), BallastTrack.NONE);
             int passed = 0;
